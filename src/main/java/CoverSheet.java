@@ -400,16 +400,13 @@ public final class CoverSheet {
             return 2 * (DAYS - 1 - day);
         }
 
-        static int maskOf(int day) {
-            return 3 << placeOf(day);
-        }
-
         static int at(int week, int day) {
             return week >> placeOf(day) & 3;
         }
 
         static int with(int week, int day, int entry) {
-            return week & ~maskOf(day) | entry << placeOf(day);
+            int place = placeOf(day);
+            return week & ~(3 << place) | entry << place;
         }
 
         static int shiftsFrom(int week, int firstDay) {
@@ -461,12 +458,12 @@ public final class CoverSheet {
         }
     }
 
+    /** One who is planned: this week, what was wished and fixed for it, and what closed weeks left. */
     private static final class Person {
         private final int skills;
         private final int most;
         private int week;
-        private int fixedDays;
-        private int fixedEntries;
+        private int fixed;
         private int wishes;
         private int lastEntry;
         private int daysInARow;
@@ -497,25 +494,23 @@ public final class CoverSheet {
             return count;
         }
 
+        // What is fixed for a day stands in four bits as the entry and one more; NONE is -1, so 0 is none.
         int fixedAt(int day) {
-            return (fixedDays & Week.maskOf(day)) == 0 ? NONE : Week.at(fixedEntries, day);
+            return (fixed >> ENTRIES * day & 15) - 1;
         }
 
         void changeFixed(int day, int entry) {
-            fixedDays &= ~Week.maskOf(day);
-            fixedEntries &= ~Week.maskOf(day);
-            if (entry != NONE) {
-                fixedDays |= Week.maskOf(day);
-                fixedEntries = Week.with(fixedEntries, day, entry);
-            }
+            int place = ENTRIES * day;
+            fixed = fixed & ~(15 << place) | entry + 1 << place;
         }
 
         /** Tells whether an entry is left open by the skills and by what is fixed. */
         boolean mayHave(int day, int entry) {
-            int fixed = fixedAt(day);
-            return (fixed == NONE || fixed == entry) && (entry == OFF || (skills & 1 << entry) != 0);
+            int due = fixedAt(day);
+            return (due == NONE || due == entry) && (entry == OFF || (skills & 1 << entry) != 0);
         }
 
+        /** Tells whether a week is feasible. */
         boolean canHave(int tried, Rules rules) {
             int before = lastEntry;
             int run = daysInARow;
@@ -538,8 +533,7 @@ public final class CoverSheet {
             weekendShifts += Week.shiftsFrom(week, FIRST_WEEKEND_DAY);
             week = Week.ALL_OFF;
             wishes = 0;
-            fixedDays = 0;
-            fixedEntries = 0;
+            fixed = 0;
         }
     }
 
@@ -663,36 +657,29 @@ public final class CoverSheet {
 
         private void goOn(Person who, Rules rules, Measure measure, int day) {
             Arrays.fill(nextValues, measure.none());
-            // No day gives more than one shift, so places of more shifts than days are still empty.
-            int end = Math.min(placeOf(day + 1, 0, OFF), values.length);
-            for (int place = 0; place < end; place++) {
-                if (values[place] != measure.none()) {
-                    goOnFrom(place, who, rules, measure, day);
+            for (int place = 0; place < values.length; place++) {
+                long value = values[place];
+                if (value == measure.none()) {
+                    continue;
+                }
+                int before = place % ENTRIES;
+                int run = place / ENTRIES % RUNS;
+                int shifts = place / ENTRIES / RUNS;
+                for (int entry = OFF; entry <= NIGHT; entry++) {
+                    boolean isTooMany = entry != OFF && shifts >= who.most;
+                    if (isTooMany || !who.mayHave(day, entry) || !rules.allow(before, run, entry)) {
+                        continue;
+                    }
+                    int next = entry == OFF ? placeOf(shifts, 0, OFF) : placeOf(shifts + 1, run + 1, entry);
+                    if (next >= 0 && next < nextValues.length) {
+                        long longer = measure.longer(value, day, entry);
+                        nextValues[next] = measure.joined(nextValues[next], longer);
+                    }
                 }
             }
             long[] freed = values;
             values = nextValues;
             nextValues = freed;
-        }
-
-        private void goOnFrom(int place, Person who, Rules rules, Measure measure, int day) {
-            if (place < 0 || place >= values.length) {
-                return;
-            }
-            int before = place % ENTRIES;
-            int run = place / ENTRIES % RUNS;
-            int shifts = place / ENTRIES / RUNS;
-            for (int entry = OFF; entry <= NIGHT; entry++) {
-                if (!who.mayHave(day, entry) || !rules.allow(before, run, entry)
-                        || entry != OFF && shifts >= who.most) {
-                    continue;
-                }
-                int next = entry == OFF ? placeOf(shifts, 0, OFF) : placeOf(shifts + 1, run + 1, entry);
-                if (next >= 0 && next < nextValues.length) {
-                    long value = measure.longer(values[place], day, entry);
-                    nextValues[next] = measure.joined(nextValues[next], value);
-                }
-            }
         }
     }
 }

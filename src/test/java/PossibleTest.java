@@ -114,6 +114,22 @@ public final class PossibleTest {
         counts(desk, "a run of fourteen", 0, 128);
         desk.setRun(2);
         counts(desk, "a run shorter than the row before", 0, 44);
+        desk.setRun(14);
+        desk.closeWeek();
+        counts(desk, "after another week off", 0, 128);
+        for (int week = 0; week < 2; week++) {
+            for (int day = 0; day < 7; day++) {
+                desk.set(0, day, 1);
+            }
+            desk.closeWeek();
+        }
+        Check.due("20 fourteen days in a row", desk.runBefore(0), 14);
+        counts(desk, "after fourteen days in a row", 0, 64);
+        for (int day = 0; day < 7; day++) {
+            desk.setNeed(day, 1, 1);
+        }
+        Check.due("8 plan() after fourteen days in a row", desk.plan(), 0);
+        Check.due("8 off on the first day", Check.week(desk, 0) + Check.week(desk, 1), "01111111000000");
         desk = deskOf(1, 14, 7);
         desk.set(0, 6, 3);
         desk.closeWeek();
@@ -267,6 +283,17 @@ public final class PossibleTest {
         Check.due("26 needs stay", desk.bound(), 0);
         desk.setNeed(2, 2, 3);
         Check.due("26 three more", desk.bound(), 3);
+        CoverSheet alone = deskOf(1, 14, 7);
+        for (int kind = 1; kind <= 3; kind++) {
+            alone.setNeed(4, kind, 1);
+        }
+        Check.due("26 one person for three kinds", alone.bound(), 2);
+        CoverSheet pairs = new CoverSheet();
+        for (int kind = 1; kind <= 3; kind++) {
+            pairs.addPerson(14 - (1 << kind), 7);
+            pairs.setNeed(1, kind, 1);
+        }
+        Check.due("26 three who can do two kinds each", pairs.bound(), 0);
     }
 
     private static void noSuchPerson() {
